@@ -630,12 +630,16 @@ public final class TwoGames {
             return;
         }
         for (int p = 0; p < playCount; p++) {
-            Play play = playAt(p);
-            if (play != null && play.kind != ECHO) {
-                tried[depth] = p;
-                rounds[depth + 1].follow(rounds[depth], play.wins, SURE);
-                tryRows(depth + 1, n);
-            }
+            tryRowsWith(p, depth, n);
+        }
+    }
+
+    private void tryRowsWith(int number, int depth, int n) {
+        Play play = playAt(number);
+        if (play != null && play.kind != ECHO) {
+            tried[depth] = number;
+            rounds[depth + 1].follow(rounds[depth], play.wins, SURE);
+            tryRows(depth + 1, n);
         }
     }
 
@@ -647,12 +651,16 @@ public final class TwoGames {
             return;
         }
         for (int p = 0; p < playCount; p++) {
-            Play play = playAt(p);
-            if (play != null && play.kind != ECHO) {
-                tried[rest] = p;
-                turnOdds[rest] = play.wins[rest];
-                tryChoices(rest + 1);
-            }
+            tryChoicesWith(p, rest);
+        }
+    }
+
+    private void tryChoicesWith(int number, int rest) {
+        Play play = playAt(number);
+        if (play != null && play.kind != ECHO) {
+            tried[rest] = number;
+            turnOdds[rest] = play.wins[rest];
+            tryChoices(rest + 1);
         }
     }
 
@@ -850,7 +858,8 @@ public final class TwoGames {
             for (int from = 0; from < rests; from++) {
                 gains[from] = ahead.gains[from] * by;
                 for (int at = 0; at < rests; at++) {
-                    step(from, at, ahead.chance(from, at) * odds[at], ahead.chance(from, at) * (by - odds[at]));
+                    long chance = ahead.chance(from, at);
+                    step(from, at, chance * odds[at], chance * (by - odds[at]));
                 }
             }
         }

@@ -258,6 +258,8 @@ public final class GainsTest {
         due("middle 7 of 6", x.middle(1, 2), 1);
         due("middle 12 of 0", x.middle(3, 4), 7);
         due("middle 7 of 0", x.middle(1, 4), 11);
+        x.rested(6, 6, 7);
+        due("middle with all parts alone", x.middle(5, 4), 12);
         due("middle: finding", x.finding(), 0);
     }
 
