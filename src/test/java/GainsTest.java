@@ -1,35 +1,5 @@
 /** Promises 16 to 24: rounds, shares, gains, lots, the best ones. */
-public final class GainsTest {
-    private static final int BAD = -1, FINDING = -3, STATE = -4, NONE = -9;
-    private static final int NOTHING = 1, UNLIKE = 3;
-    private static final int MIN = Integer.MIN_VALUE, MAX = Integer.MAX_VALUE;
-    private static int wrong = 0;
-
-    private static void due(String call, long got, long want) {
-        if (got != want) {
-            wrong++;
-            System.out.println(call + " answered " + got + ", due is " + want);
-        }
-    }
-
-    private static void dueTold(TwoGames x, String call, int got, int want, long upper, long lower) {
-        due(call, got, want);
-        due(call + " upper", x.upper(), upper);
-        due(call + " lower", x.lower(), lower);
-    }
-
-    private static void dueFinding(TwoGames x, String call, int f, int got) {
-        due(call, got, FINDING);
-        due(call + " finding", x.finding(), f);
-    }
-
-    private static void lay(TwoGames x, int r, int... places) {
-        x.row(r, places.length);
-        for (int i = 0; i < places.length; i++) {
-            x.lay(r, i, places[i]);
-        }
-    }
-
+public final class GainsTest extends Check {
     public static void main(String[] args) {
         leads();
         leadsByTwoAndOne();
@@ -47,10 +17,7 @@ public final class GainsTest {
         bestChoice();
         choiceStays();
         paradoxes();
-        System.out.println(wrong == 0 ? "GainsTest: as due" : wrong + " answers are not as due");
-        if (wrong != 0) {
-            System.exit(1);
-        }
+        end("GainsTest");
     }
 
     /** Plays 0 rested 2 7 11, 1 flat 4, 2 always wins, 3 an echo. */

@@ -4,13 +4,17 @@ import java.util.Arrays;
 import java.util.List;
 
 /**
- * Long runs of calls, good and bad ones mixed, on an object and on a plain model: after every call
- * the answer, the fraction told, the findings and the digest must be the same. The model walks every
- * path and solves the equations in fractions; it shares no method with the class.
+ * Runs of up to 512 calls, good and bad ones mixed, on an object and on a plain model: every answer
+ * must be the same, and behind every call the fraction told and the digest; the findings, the counts
+ * and the choice are compared by turns, and all of them at the end. The model walks every path and
+ * solves the equations in fractions; it shares no method with the class.
  */
 public final class ModelTest {
-    private static final int RUNS = 400;
-    private static final int CALLS = 250;
+    private static final int RUNS = 1200;
+    /** What an object answers behind its 512th call is free. */
+    private static final int MOST_CALLS = 512;
+    private static final int MOST_IN_A_STEP = 10;
+    private static final int STATE_PARTS = 13;
     private static int wrong = 0;
 
     public static void main(String[] args) {
@@ -27,6 +31,7 @@ public final class ModelTest {
     private static final class Driver {
         private final int run;
         private long seed;
+        private int made = 0;
         private final TwoGames x = new TwoGames();
         private final Model y = new Model();
 
@@ -62,25 +67,34 @@ public final class ModelTest {
         }
 
         void go() {
-            for (int call = 0; call < CALLS && wrong < 20; call++) {
+            for (int call = 0; made + MOST_IN_A_STEP + STATE_PARTS <= MOST_CALLS && wrong < 20; call++) {
                 step(call);
                 due(call, "upper", x.upper(), y.upper.longValueExact());
                 due(call, "lower", x.lower(), y.lower.longValueExact());
-                due(call, "finding", x.finding(), y.finding);
-                for (int f = 1; f <= 5; f++) {
-                    due(call, "findings", x.findings(f), y.findings[f]);
-                }
                 due(call, "digest", x.digest(), y.digest());
-                for (int what = 0; what < 4; what++) {
-                    due(call, "count", x.count(what), y.count(what));
-                }
-                for (int rest = 0; rest < 3; rest++) {
-                    due(call, "choice", x.choice(rest), y.choice[rest]);
-                }
+                duePart(call, call % STATE_PARTS);
+            }
+            for (int part = 0; part < STATE_PARTS; part++) {
+                duePart(-1, part);
             }
         }
 
+        /** One of the things told that seldom change: the findings, the counts, the choice. */
+        private void duePart(int call, int part) {
+            if (part == 0) {
+                due(call, "finding", x.finding(), y.finding);
+            } else if (part < 6) {
+                due(call, "findings", x.findings(part), y.findings[part]);
+            } else if (part < 10) {
+                due(call, "count", x.count(part - 6), y.count(part - 6));
+            } else {
+                due(call, "choice", x.choice(part - 10), y.choice[part - 10]);
+            }
+        }
+
+        /** Every one of these is one call on the object, so they are counted here. */
         private void due(int call, String what, long got, long want) {
+            made++;
             if (got != want) {
                 wrong++;
                 System.out.println("run " + run + " call " + call + ": " + what + " answered " + got

@@ -1,17 +1,5 @@
 /** Promises 1 to 15: a new object, plays, rows. */
-public final class PlaysAndRowsTest {
-    private static final int BAD = -1, FULL = -2, FINDING = -3, NONE = -9;
-    private static final int NOTHING = 1, BEYOND = 2, UNLIKE = 3, NOUGHT = 4, SIZE = 5;
-    private static final int MIN = Integer.MIN_VALUE, MAX = Integer.MAX_VALUE;
-    private static int wrong = 0;
-
-    private static void due(String call, long got, long want) {
-        if (got != want) {
-            wrong++;
-            System.out.println(call + " answered " + got + ", due is " + want);
-        }
-    }
-
+public final class PlaysAndRowsTest extends Check {
     /** The answer is FINDING, this one finding is counted, and nothing else has changed. */
     private static void dueFinding(TwoGames x, String call, int f, long digest, int before, int got) {
         due(call, got, FINDING);
@@ -39,10 +27,7 @@ public final class PlaysAndRowsTest {
         tear();
         copy();
         copyRefused();
-        System.out.println(wrong == 0 ? "PlaysAndRowsTest: as due" : wrong + " answers are not as due");
-        if (wrong != 0) {
-            System.exit(1);
-        }
+        end("PlaysAndRowsTest");
     }
 
     private static void newObject() {
@@ -332,21 +317,15 @@ public final class PlaysAndRowsTest {
         return x;
     }
 
-    private static void duePlaces(String call, TwoGames x, int r, int... want) {
-        for (int i = 0; i < want.length; i++) {
-            due(call + " place " + i, x.lay(r, i, want[i]), want[i] + 1000);
-        }
-    }
-
     private static void copy() {
         TwoGames x = laid();
         due("copy", x.copy(0, 2, 1, 1, 2), 1);
-        duePlaces("copy", x, 1, 0, 12, 13);
-        duePlaces("copy source", x, 0, 10, 11, 12, 13);
+        duePlaces(x, "copy", 1, 0, 12, 13);
+        duePlaces(x, "copy source", 0, 10, 11, 12, 13);
         due("copy up in itself", x.copy(0, 0, 0, 1, 3), 1);
-        duePlaces("copy up", x, 0, 10, 10, 11, 12);
+        duePlaces(x, "copy up", 0, 10, 10, 11, 12);
         due("copy down in itself", x.copy(0, 1, 0, 0, 3), 1);
-        duePlaces("copy down", x, 0, 10, 11, 12, 12);
+        duePlaces(x, "copy down", 0, 10, 11, 12, 12);
         long d = x.digest();
         due("copy none at the end", x.copy(0, 4, 1, 3, 0), 1);
         due("copy onto itself", x.copy(0, 0, 0, 0, 4), 1);

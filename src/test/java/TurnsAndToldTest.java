@@ -1,35 +1,5 @@
 /** Promises 25 to 34: after turns, ends, runs, and what is told. */
-public final class TurnsAndToldTest {
-    private static final int BAD = -1, FINDING = -3, STATE = -4;
-    private static final int NOTHING = 1, BEYOND = 2, UNLIKE = 3, NOUGHT = 4, SIZE = 5;
-    private static final int MIN = Integer.MIN_VALUE, MAX = Integer.MAX_VALUE;
-    private static int wrong = 0;
-
-    private static void due(String call, long got, long want) {
-        if (got != want) {
-            wrong++;
-            System.out.println(call + " answered " + got + ", due is " + want);
-        }
-    }
-
-    private static void dueTold(TwoGames x, String call, int got, int want, long upper, long lower) {
-        due(call, got, want);
-        due(call + " upper", x.upper(), upper);
-        due(call + " lower", x.lower(), lower);
-    }
-
-    private static void dueFinding(TwoGames x, String call, int f, int got) {
-        due(call, got, FINDING);
-        due(call + " finding", x.finding(), f);
-    }
-
-    private static void lay(TwoGames x, int r, int... places) {
-        x.row(r, places.length);
-        for (int i = 0; i < places.length; i++) {
-            x.lay(r, i, places[i]);
-        }
-    }
-
+public final class TurnsAndToldTest extends Check {
     public static void main(String[] args) {
         after();
         afterOverAndOver();
@@ -44,10 +14,7 @@ public final class TurnsAndToldTest {
         count();
         findings();
         digest();
-        System.out.println(wrong == 0 ? "TurnsAndToldTest: as due" : wrong + " answers are not as due");
-        if (wrong != 0) {
-            System.exit(1);
-        }
+        end("TurnsAndToldTest");
     }
 
     /** Plays 0 rested 3 6 9, 1 flat 4, 2 always wins, 3 an echo. */
@@ -287,14 +254,6 @@ public final class TurnsAndToldTest {
         due("findings 6", x.findings(6), BAD);
         due("findings -1", x.findings(-1), BAD);
         due("findings min", x.findings(MIN), BAD);
-    }
-
-    private static long digestOf(int... values) {
-        long h = 17;
-        for (int v : values) {
-            h = 31 * h + v;
-        }
-        return h;
     }
 
     private static void digest() {
