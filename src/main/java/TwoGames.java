@@ -666,6 +666,11 @@ public final class TwoGames {
 
     // ---- purses
 
+    /** What a purse, perhaps below 0, leaves over. */
+    private int restOf(int purse) {
+        return rests < 1 ? 0 : Math.floorMod(purse, rests);
+    }
+
     private void spread(Row row, int purse, int n) {
         purses.begin(purse);
         for (int turn = 0; turn < n && row.size > 0; turn++) {
@@ -684,7 +689,7 @@ public final class TwoGames {
     private long weightOfCut(Play play, int lo, int cut, int hi) {
         long weight = 1;
         for (int purse = lo + 1; purse < hi; purse++) {
-            int win = play.wins[Math.floorMod(purse, rests)];
+            int win = play.wins[restOf(purse)];
             weight *= purse <= cut ? SURE - win : win;
         }
         return weight;
@@ -893,7 +898,7 @@ public final class TwoGames {
          * product of the steps' chances: the share of a rest goes as this, and nothing is divided.
          */
         private long weightOf(int root) {
-            if (rests == 1) {
+            if (rests < 2) {
                 return 1;
             }
             int one = (root + 1) % rests;

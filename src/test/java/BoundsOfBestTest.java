@@ -12,6 +12,7 @@ public final class BoundsOfBestTest extends Check {
         bestRowThatNeverSettles();
         bestRowOfThoseThatSettle();
         bestRowOfEqualsIsTheFirst();
+        bestRowOfGainsCloseTogether();
         bestRowOfEightPlays();
         bestRowComesToARow();
         bestRowTakesNoEcho();
@@ -19,6 +20,7 @@ public final class BoundsOfBestTest extends Check {
         bestChoiceOfEqualsIsTheFirst();
         bestChoiceByEachM();
         bestChoiceOfEightPlays();
+        eachSearchBeginsAnew();
         choiceOfNoRest();
         choiceBeforeAny();
         choiceOfTheLatest();
@@ -56,9 +58,11 @@ public final class BoundsOfBestTest extends Check {
     private static TwoGames echoes() {
         TwoGames x = new TwoGames();
         for (int p = 0; p < 8; p++) {
-            x.echo(12, 12, 12, 12);
+            x.echo(12, 12, 12, 5);
         }
         lay(x, 1, 5, 6, 7);
+        x.run(0, 3, 1, 1);
+        x.tear(0);
         return x;
     }
 
@@ -71,6 +75,7 @@ public final class BoundsOfBestTest extends Check {
             TwoGames x = new TwoGames();
             x.play();
             x.row(1, 2);
+            x.lot(0, 0, 0);
             return x;
         };
         dueStill(onlyWins, "21 three wins by 3", STATE, x -> x.bestRow(3, 1));
@@ -108,6 +113,26 @@ public final class BoundsOfBestTest extends Check {
             dueTold(z, "21 equal plays, " + n, z.bestRow(n, 0), 1, 1, 3);
             int[] ones = {1, 1, 1, 1};
             duePlaces(z, "21 equal plays, " + n, 0, Arrays.copyOf(ones, n));
+        }
+    }
+
+    /** Terms 2: "that with the greatest GAIN": of all RESTED plays these are the closest by 3. */
+    private static void bestRowOfGainsCloseTogether() {
+        dueBest(new int[] {11, 9, 7}, new int[] {7, 10, 10}, 85, 174);
+        dueBest(new int[] {5, 2, 2}, new int[] {1, 3, 5}, -339, 694);
+        dueBest(new int[] {10, 5, 3}, new int[] {2, 8, 9}, 3, 155);
+        dueBest(new int[] {10, 4, 3}, new int[] {2, 7, 9}, -6, 311);
+    }
+
+    private static void dueBest(int[] less, int[] more, int upper, int lower) {
+        for (int best = 0; best < 2; best++) {
+            int[] first = best == 0 ? more : less;
+            int[] other = best == 0 ? less : more;
+            TwoGames x = new TwoGames();
+            x.rested(first[0], first[1], first[2]);
+            x.rested(other[0], other[1], other[2]);
+            dueTold(x, "21 the greater of two close gains", x.bestRow(1, 0), 1, upper, lower);
+            duePlaces(x, "21 the greater of two close gains", 0, best);
         }
     }
 
@@ -225,6 +250,25 @@ public final class BoundsOfBestTest extends Check {
             dueTold(x, "22 best of eight", x.bestChoice(), 1, 1, 2);
             dueChoice("best of eight", x, best, best, best);
         }
+    }
+
+    /** What a search found, or did not find, counts for no later one. */
+    private static void eachSearchBeginsAnew() {
+        TwoGames x = new TwoGames();
+        x.flat(5);
+        x.rested(1, 9, 9);
+        dueTold(x, "21 the first search", x.bestRow(3, 0), 1, 20201, 2812122);
+        dueTold(x, "22 behind it", x.bestChoice(), 1, 57, 218);
+        dueChoice("behind a best row", x, 0, 1, 1);
+        dueTold(x, "21 behind both", x.bestRow(1, 0), 1, -3, 202);
+        duePlaces(x, "21 behind both", 0, 1);
+        x.change(1, 1, 0);
+        x.rest(2);
+        due("21 nothing settles", x.bestRow(4, 0), STATE);
+        dueTold(x, "22 behind STATE", x.bestChoice(), 1, -1, 6);
+        dueChoice("behind STATE", x, 0, 0, NONE);
+        due("21 nothing settles still", x.bestRow(2, 0), STATE);
+        dueChoice("behind STATE of a row", x, 0, 0, NONE);
     }
 
     /** Promise 23: "for a rest; NONE: none such." It is never BAD, and nothing changes. */

@@ -156,6 +156,7 @@ public final class BoundsOfGainsTest extends Check {
         }
     }
 
+    /** Row 0 by m; a fraction is told and a finding found, so that a change of these can be seen. */
     private static TwoGames rowBy(int m, int... places) {
         TwoGames x = new TwoGames();
         x.play();
@@ -164,6 +165,8 @@ public final class BoundsOfGainsTest extends Check {
         x.rested(3, 6, 9);
         x.rest(m);
         lay(x, 0, places);
+        x.lot(0, 1, 1);
+        x.mean(0);
         return x;
     }
 

@@ -115,6 +115,8 @@ public final class BoundsOfPlaysTest extends Check {
         for (int p = 0; p < many; p++) {
             x.flat(p);
         }
+        x.lot(0, 0, 0);
+        x.tear(0);
         return x;
     }
 

@@ -11,6 +11,7 @@ public final class BoundsOfTurnsTest extends Check {
         afterAllWonOrLost();
         afterEveryPurse();
         afterFarAway();
+        afterOverRests();
         meanAfterNumbers();
         meanAfterAtTheBounds();
         endsNumbers();
@@ -111,6 +112,34 @@ public final class BoundsOfTurnsTest extends Check {
                 dueTold(x, "25 from " + first + " to " + then, x.after(3, first, 9, then), 1, 0, 1);
             }
         }
+    }
+
+    /** Terms 1: the rest is that of the purse at each turn, "perhaps below 0", not of the first one. */
+    private static void afterOverRests() {
+        int[] odds = {1, 5, 10};
+        for (int m = 1; m <= 3; m++) {
+            for (int purse = -20; purse <= 20; purse++) {
+                TwoGames x = new TwoGames();
+                x.rested(odds[0], odds[1], odds[2]);
+                x.row(0, 1);
+                x.rest(m);
+                long won = 1, lost = 1, by = 1;
+                for (int n = 1; n <= 9; n++) {
+                    won *= odds[Math.floorMod(purse + n - 1, m)];
+                    lost *= 12 - odds[Math.floorMod(purse - n + 1, m)];
+                    by *= 12;
+                    dueShare(x, "25 all won from " + purse, x.after(0, purse, n, purse + n), won, by);
+                    dueShare(x, "25 all lost from " + purse, x.after(0, purse, n, purse - n), lost, by);
+                }
+            }
+        }
+    }
+
+    /** A fraction told, but for its lowest terms. */
+    private static void dueShare(TwoGames x, String call, int got, long upper, long lower) {
+        due(call, got, 1);
+        due(call + " told", x.upper() * (lower / x.lower()), upper);
+        due(call + " by", lower % x.lower(), 0);
     }
 
     /** Promise 26: "BAD", by the bounds of Terms 3. */
